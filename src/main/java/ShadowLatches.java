@@ -9,6 +9,8 @@ public final class ShadowLatches {
     private static final int MOST_STATES = 4;
     private static final int VOLTAGE_GRID = 50;
     private static final int FAULT_BASE = -100;
+    /** What count() is asked for to tell the setting 0; the others follow it. */
+    private static final int COUNT_OF_SETTINGS = 17;
 
     private final Circuit now;
     private final Circuit kept;
@@ -42,7 +44,6 @@ public final class ShadowLatches {
         recordState();
         int added = now.paths;
         now.lengths[added] = length;
-        now.uses[added] = 0;
         now.paths = added + 1;
         return added;
     }
@@ -262,8 +263,8 @@ public final class ShadowLatches {
     }
 
     public int count(int what) {
-        if (isWithin(what, 17, 17 + Circuit.SETTINGS - 1)) {
-            return now.settings[what - 17];
+        if (isWithin(what, COUNT_OF_SETTINGS, COUNT_OF_SETTINGS + Circuit.SETTINGS - 1)) {
+            return now.settings[what - COUNT_OF_SETTINGS];
         }
         switch (what) {
             case 0: return now.voltage;

@@ -41,6 +41,10 @@ public final class ForecastTest {
         x.set(1, 0);
         // 90000 / 900 = 100, and 90000 / 899 = 100.1..; all from 90000 / 892 = 100.9.. on
         c.due("rounded down", x.least(true), 1192);
+        x.setLength(0, 395);
+        x.set(0, 438);
+        // 395000 / 900 = 438.8.., and 395000 / 899 = 439.3..
+        c.due("1200 itself", x.least(true), 1200);
         heatRaisesIt(c);
     }
 
@@ -111,6 +115,12 @@ public final class ForecastTest {
         c.due("heat", x.count(1), 21);
         c.due("it is as it would be", x.count(5), 2);
         c.due("heat is told whole", x.would(500, 1, 4), 21);
+        x.set(1, 0);
+        x.run(2);
+        c.due("one is lost", x.count(6), 1);
+        c.due("lost are of these cycles alone", x.would(1000, 4, 1), 2);
+        // 866 * 866 / 10000 = 74.9956
+        c.due("energy is rounded down in each cycle", x.would(866, 4, 2), 296);
     }
 
     private static void whatWouldBeIsWithoutTheGovernor(Checks c) {
@@ -160,6 +170,10 @@ public final class ForecastTest {
         c.unchanged("best", before, x);
         x.setLength(0, 400);
         c.due("all lose", x.best(10), Checks.NONE);
+        x.set(0, 444);
+        x.set(1, 0);
+        c.due("all but 1200 lose", x.best(10), 1200);
+        x.set(0, 200);
         c.due("but not in nine cycles", x.best(9), 500);
         x.run(9);
         c.due("the set at hand counts", x.best(1), Checks.NONE);

@@ -4,6 +4,7 @@ public final class HistoryTest {
         Checks c = new Checks("HistoryTest");
         fourStatesAreKept(c);
         everyActIsRecordedAndUndone(c);
+        stepsAreUndoneAndRestored(c);
         theSnapshotStays(c);
         theSnapshotIsReplaced(c);
         theSnapshotIsNoPartOfTheState(c);
@@ -53,6 +54,35 @@ public final class HistoryTest {
             c.due("undo() of act " + act, x.undo(), 3);
             c.unchanged("undo() of act " + act, before, x);
         }
+    }
+
+    private static void stepsAreUndoneAndRestored(Checks c) {
+        ShadowLatches x = Checks.with(1, "0");
+        x.set(3, 10);
+        x.govern(true);
+        x.run(20);
+        x.setVoltage(700);
+        x.setLength(0, 90);
+        x.set(0, 50);
+        x.set(1, 200);
+        // 90000 / 400 = 225, and 230 by the heat: late, with a replay of five; five windows of two cycles each.
+        x.set(4, 1);
+        c.due("run(10)", x.run(10), 10);
+        c.due("steps down", x.count(16), 2);
+        c.due("steps up", x.count(15), 5);
+        long[] before = Checks.everything(x);
+        x.keep();
+        x.run(10);
+        c.isTrue("more steps up", x.count(15) > 5);
+        x.set(4, 100);
+        x.run(10);
+        c.isTrue("more steps down", x.count(16) > 2);
+        x.restore();
+        c.unchanged("restore() of steps", before, x);
+        x.run(10);
+        x.undo();
+        before[24] = 3;
+        c.unchanged("undo() of steps", before, x);
     }
 
     private static int act(ShadowLatches x, int which) {

@@ -77,6 +77,14 @@ public final class WorkloadsTest {
         c.due("workload(0) of it", x.workload(0), 32);
         c.due("workload(1) of it", x.workload(1), Checks.NONE);
         c.due("path(7, 4)", x.path(7, 4), 0);
+        Checks.take(x, "0,7");
+        Checks.take(x, "5");
+        x.setLength(7, 400);
+        c.due("path(7, 4): nothing is left of a longer one", x.path(7, 4), 0);
+        c.due("least(true) of it", x.least(true), 715);
+        x.undo();
+        x.undo();
+        x.undo();
         x.undo();
         c.due("undo() leaves the text", x.count(25), 1);
         c.due("and brings the workload", x.workload(2), 128);
@@ -90,6 +98,7 @@ public final class WorkloadsTest {
         before[25] = 5;
         c.due("path 7 of 7", x.takeWorkload(), Checks.UNKNOWN);
         c.unchanged("takeWorkload() without the path", before, x);
+        c.due("path 7 in the first set", Checks.take(x, "7,0"), Checks.UNKNOWN);
         c.due("a fault comes first", Checks.take(x, "7,"), -102);
         c.due("a fault behind it too", Checks.take(x, "7,65"), -103);
         c.due("path 6 of 7", Checks.take(x, "6"), 1);
