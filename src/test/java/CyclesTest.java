@@ -34,11 +34,11 @@ public final class CyclesTest {
     }
 
     private static void settingsAreSet(Checks c) {
-        ShadowLatches x = new ShadowLatches();
         int[] first = {200, 40, 5, 100, 2, 10, 4};
         int[] least = {50, 0, 1, 10, 0, 1, 1};
         int[] most = {1000, 200, 20, 500, 100, 50, 10};
         for (int which = 0; which < 7; which++) {
+            ShadowLatches x = new ShadowLatches();
             c.due("count of setting " + which, x.count(17 + which), first[which]);
             c.due("its first value", x.set(which, first[which]), Checks.NONE);
             c.due("its least", x.set(which, least[which]), first[which]);
@@ -51,14 +51,15 @@ public final class CyclesTest {
             c.unchanged("a refused set", before, x);
             c.due("its most", x.set(which, most[which]), least[which]);
             c.due("count of setting " + which + " then", x.count(17 + which), most[which]);
+            c.due("undo()", x.undo(), 1);
+            c.due("count of setting " + which + " behind undo()", x.count(17 + which), least[which]);
         }
+        ShadowLatches x = new ShadowLatches();
         long[] before = Checks.everything(x);
         for (int which : new int[] {-1, 7, Integer.MIN_VALUE, Integer.MAX_VALUE}) {
             c.due("set(" + which + ", 10)", x.set(which, 10), Checks.BAD_VALUE);
         }
         c.unchanged("set of no setting", before, x);
-        c.due("undo()", x.undo(), 3);
-        c.due("count(23) then", x.count(23), 1);
     }
 
     private static void runRefuses(Checks c) {

@@ -36,16 +36,16 @@ public final class HistoryTest {
     }
 
     private static void everyActIsRecordedAndUndone(Checks c) {
-        ShadowLatches x = Checks.with(2, "0,1,01");
-        x.set(0, 150);
-        x.set(1, 200);
-        x.set(3, 10);
-        x.govern(true);
-        x.setLength(1, 120);
-        x.run(8);
-        x.keep();
-        x.run(3);
         for (int act = 0; act < 9; act++) {
+            ShadowLatches x = Checks.with(2, "0,1,01");
+            x.set(0, 150);
+            x.set(1, 200);
+            x.set(3, 10);
+            x.govern(true);
+            x.setLength(1, 120);
+            x.run(8);
+            x.keep();
+            x.run(3);
             long[] before = Checks.everything(x);
             before[24] = 3;
             int answer = act(x, act);

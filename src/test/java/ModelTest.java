@@ -1,7 +1,8 @@
 /** Long runs of calls by seeds, wrong arguments among them, with each answer held against the model's. */
 public final class ModelTest {
-    private static final int RUNS = 400;
-    private static final int CALLS = 512;
+    private static final int RUNS = 6000;
+    /** One kind of calls types, asks or changes with so many calls at most. */
+    private static final int MOST_AT_ONCE = 80;
     private static final int[] WRONG = {-1, Integer.MIN_VALUE, Integer.MAX_VALUE, 0, 1 << 16, 1201, 2001, 401};
     private static final int[][] RANGES = {{50, 1000}, {0, 200}, {1, 20}, {10, 500}, {0, 100}, {1, 50}, {1, 10}};
 
@@ -9,6 +10,7 @@ public final class ModelTest {
     private final ShadowLatches x = new ShadowLatches();
     private final Model model = new Model();
     private final int run;
+    private int calls;
     private long seed;
 
     private ModelTest(Checks checks, int run) {
@@ -26,16 +28,15 @@ public final class ModelTest {
     }
 
     private void calls() {
-        // Some runs have many paths and hard settings from the start, others grow slowly.
-        int call = 0;
+        // Some runs have many paths from the start, others grow slowly.
         if (run % 2 == 0) {
-            for (; call < run % 8; call++) {
+            for (int i = 0; i < run % 8; i++) {
                 int length = from(10, 250);
-                same(call, "addPath(" + length + ")", x.addPath(length), model.addPath(length));
+                same("addPath(" + length + ")", x.addPath(length), model.addPath(length));
             }
         }
-        for (; call < CALLS; call++) {
-            one(call);
+        while (calls + MOST_AT_ONCE <= Checks.MOST_CALLS) {
+            one();
         }
     }
 
@@ -60,62 +61,63 @@ public final class ModelTest {
         }
     }
 
-    private void same(int call, String what, long got, long want) {
-        checks.due("run " + run + ", call " + call + ": " + what, got, want);
+    private void same(String what, long got, long want) {
+        calls++;
+        checks.due("run " + run + ", call " + calls + ": " + what, got, want);
     }
 
-    private void one(int call) {
+    private void one() {
         int kind = next(40);
         if (kind < 14) {
-            change(call, kind);
+            change(kind);
         } else if (kind < 20) {
-            type(call);
+            type();
         } else if (kind < 24) {
-            history(call);
+            history();
         } else {
-            ask(call);
+            ask();
         }
     }
 
-    private void change(int call, int kind) {
+    private void change(int kind) {
         if (kind < 1) {
             int length = value(10, 400);
-            same(call, "addPath(" + length + ")", x.addPath(length), model.addPath(length));
+            same("addPath(" + length + ")", x.addPath(length), model.addPath(length));
         } else if (kind < 2) {
             int path = value(0, 7);
             int length = value(10, 400);
-            same(call, "setLength(" + path + ", " + length + ")", x.setLength(path, length), model.setLength(path, length));
+            same("setLength(" + path + ", " + length + ")", x.setLength(path, length), model.setLength(path, length));
         } else if (kind < 4) {
             int sets = value(1, 16);
             int s = value(0, 9999);
-            same(call, "layWorkload(" + sets + ", " + s + ")", x.layWorkload(sets, s), model.layWorkload(sets, s));
+            same("layWorkload(" + sets + ", " + s + ")", x.layWorkload(sets, s), model.layWorkload(sets, s));
         } else if (kind < 6) {
             int voltage = value(500, 1200);
-            same(call, "setVoltage(" + voltage + ")", x.setVoltage(voltage), model.setVoltage(voltage));
+            same("setVoltage(" + voltage + ")", x.setVoltage(voltage), model.setVoltage(voltage));
         } else if (kind < 7) {
             boolean on = next(4) != 0;
-            same(call, "govern(" + on + ")", x.govern(on), model.govern(on));
+            same("govern(" + on + ")", x.govern(on), model.govern(on));
         } else if (kind < 9) {
             int which = value(0, 6);
             int value = which < 0 || which > 6 ? value(0, 10) : value(RANGES[which][0], RANGES[which][1]);
-            same(call, "set(" + which + ", " + value + ")", x.set(which, value), model.set(which, value));
+            same("set(" + which + ", " + value + ")", x.set(which, value), model.set(which, value));
         } else {
             int cycles = next(4) == 0 ? value(1, 2000) : value(1, 60);
-            same(call, "run(" + cycles + ")", x.run(cycles), model.run(cycles));
+            same("run(" + cycles + ")", x.run(cycles), model.run(cycles));
         }
     }
 
-    private void type(int call) {
+    private void type() {
         if (next(3) == 0) {
-            same(call, "clearText()", x.clearText(), model.clearText());
+            same("clearText()", x.clearText(), model.clearText());
         }
         int length = next(12) == 0 ? 70 : next(20);
         char last = ',';
         for (int i = 0; i < length; i++) {
             last = likely(last);
-            same(call, "type(" + (int) last + ")", x.type(last), model.type(last));
+            same("type(" + (int) last + ")", x.type(last), model.type(last));
         }
-        same(call, "takeWorkload()", x.takeWorkload(), model.takeWorkload());
+        same("takeWorkload()", x.takeWorkload(), model.takeWorkload());
     }
 
     /** Mostly what may follow, so that many texts have no fault. */
@@ -132,15 +134,15 @@ public final class ModelTest {
         return last == '-' || last >= '7' || next(3) == 0 ? ',' : (char) (last + 1 + next('7' - last));
     }
 
-    private void history(int call) {
+    private void history() {
         switch (next(4)) {
-            case 0: same(call, "keep()", x.keep(), model.keep()); break;
-            case 1: same(call, "restore()", x.restore(), model.restore()); break;
-            default: same(call, "undo()", x.undo(), model.undo());
+            case 0: same("keep()", x.keep(), model.keep()); break;
+            case 1: same("restore()", x.restore(), model.restore()); break;
+            default: same("undo()", x.undo(), model.undo());
         }
     }
 
-    private void ask(int call) {
+    private void ask() {
         int path = value(0, 7);
         int voltage = value(500, 1200);
         int heat = value(20, 120);
@@ -149,15 +151,15 @@ public final class ModelTest {
         int few = next(4) == 0 ? value(1, 200) : value(1, 20);
         int what = value(0, 4);
         for (int i = 0; i < 26; i++) {
-            same(call, "count(" + i + ")", x.count(i), model.count(i));
+            same("count(" + i + ")", x.count(i), model.count(i));
         }
-        same(call, "count(" + heat + ")", x.count(heat), model.count(heat));
-        same(call, "path(" + path + ", " + what + ")", x.path(path, what), model.path(path, what));
-        same(call, "delay(" + path + ", " + voltage + ", " + heat + ")", x.delay(path, voltage, heat), model.delay(path, voltage, heat));
-        same(call, "workload(" + place + ")", x.workload(place), model.workload(place));
-        same(call, "least(true)", x.least(true), model.least(true));
-        same(call, "least(false)", x.least(false), model.least(false));
-        same(call, "would(" + voltage + ", " + cycles + ", " + what + ")", x.would(voltage, cycles, what), model.would(voltage, cycles, what));
-        same(call, "best(" + few + ")", x.best(few), model.best(few));
+        same("count(" + heat + ")", x.count(heat), model.count(heat));
+        same("path(" + path + ", " + what + ")", x.path(path, what), model.path(path, what));
+        same("delay(" + path + ", " + voltage + ", " + heat + ")", x.delay(path, voltage, heat), model.delay(path, voltage, heat));
+        same("workload(" + place + ")", x.workload(place), model.workload(place));
+        same("least(true)", x.least(true), model.least(true));
+        same("least(false)", x.least(false), model.least(false));
+        same("would(" + voltage + ", " + cycles + ", " + what + ")", x.would(voltage, cycles, what), model.would(voltage, cycles, what));
+        same("best(" + few + ")", x.best(few), model.best(few));
     }
 }
