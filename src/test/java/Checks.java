@@ -211,6 +211,10 @@ final class Checks {
         x.set(3, 40);
         x.govern(true);
         x.run(50);
+        x.set(4, 100);
+        x.run(40);
+        x.set(4, 2);
+        x.run(11);
         x.keep();
         x.setVoltage(800);
         x.run(5);

@@ -213,9 +213,9 @@ public final class CyclesEdgesTest {
     private static void energyRoundsDown(Checks c) {
         c.sentence("CYCLES", "spends energy: voltage * voltage / 10000, rounded down");
         ShadowLatches x = new ShadowLatches();
-        // 510 * 510 is 260100, 509 * 509 is 259081; 1199 * 1199 is 1437601.
-        int[] voltages = {500, 509, 510, 1000, 999, 1199, 1200};
-        int[] energies = {25, 25, 26, 100, 99, 143, 144};
+        // 510 * 510 is 260100, 509 * 509 is 259081; 728 * 728 is 529984; 1199 * 1199 is 1437601.
+        int[] voltages = {500, 509, 510, 728, 999, 1000, 1199, 1200};
+        int[] energies = {25, 25, 26, 52, 99, 100, 143, 144};
         for (int i = 0; i < voltages.length; i++) {
             c.due("one cycle at " + voltages[i], x.would(voltages[i], 1, 2), energies[i]);
             c.due("a hundred cycles at " + voltages[i], x.would(voltages[i], 100, 2), 100 * energies[i]);

@@ -79,6 +79,10 @@ public final class ErrorsEdgesTest {
     /** Each method that can refuse, once; the tests of its promise refuse each of its arguments in this way. */
     private static void errorsChangeNothing(Checks c) {
         c.sentence("ERRORS", "A call that returns an error or NONE changes nothing.");
+        for (int what = 0; what < 26; what++) {
+            // 14 alone, the lost paths, is 0: a number that is 0 could hide that a call sets it to 0.
+            c.isTrue("busy() has something to lose in count(" + what + ")", what == 14 || Checks.busy().count(what) > 0);
+        }
         c.changesNothing("addPath", Checks::busy, x -> x.addPath(9), Checks.BAD_VALUE);
         c.changesNothing("addPath when full", () -> Checks.with(8, "01,7"), x -> x.addPath(50), Checks.FULL);
         c.changesNothing("setLength", Checks::busy, x -> x.setLength(3, 50), Checks.UNKNOWN);
@@ -100,7 +104,7 @@ public final class ErrorsEdgesTest {
     }
 
     private static void whatIsToldChangesNothing(Checks c) {
-        c.sentence("ERRORS", "what is told");
+        c.sentence("Not promised", "Nothing is promised beyond the answers and state changes described above");
         for (int what = 0; what < 26; what++) {
             int asked = what;
             c.changesNothing("count", Checks::busy, x -> x.count(asked), Checks.busy().count(what));

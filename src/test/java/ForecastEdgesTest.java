@@ -60,6 +60,8 @@ public final class ForecastEdgesTest {
         c.due("with a longer one in the first set", x.least(false), Checks.NONE);
         x.setLength(0, 10);
         c.due("with a shorter one in the first set", x.least(false), 798);
+        Checks.take(x, "7,7");
+        c.due("of a path in two sets", x.least(false), 798);
         Checks.take(x, "-");
         c.due("of no path, none late", x.least(false), 500);
         c.due("of no path, none lost", x.least(true), 500);
@@ -173,6 +175,10 @@ public final class ForecastEdgesTest {
         for (int what = 0; what < lost.length; what++) {
             c.due("would(500, 4, " + what + ")", x.would(500, 4, what), lost[what]);
         }
+        x.setVoltage(500);
+        x.run(6);
+        c.due("lost cycles so far", x.count(6), 6);
+        c.due("those that would be lost are these alone", x.would(500, 4, 1), 4);
         for (int what : new int[] {-1, 5, Integer.MIN_VALUE, Integer.MAX_VALUE}) {
             c.changesNothing("would(500, 1, " + what + ")", Checks::busy, y -> y.would(500, 1, what), Checks.BAD_VALUE);
         }

@@ -183,6 +183,14 @@ public final class HistoryEdgesTest {
         ShadowLatches x = Checks.busy();
         ShadowLatches twin = Checks.busy();
         x.keep();
+        int up = x.count(15);
+        int down = x.count(16);
+        x.set(4, 0);
+        x.run(100);
+        c.isTrue("steps up behind the snapshot", x.count(15) > up);
+        x.set(4, 100);
+        x.run(100);
+        c.isTrue("steps down behind the snapshot", x.count(16) > down);
         for (int which = 0; which < 8; which++) {
             act(which).applyAsLong(x);
         }

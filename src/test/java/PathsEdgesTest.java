@@ -20,6 +20,8 @@ public final class PathsEdgesTest {
         settingLengths(c);
         settingTheSameLength(c);
         whatIsAskedOfAPath(c);
+        howOftenAPathWasUsed(c);
+        inHowManySetsAPathIs(c);
         unknownPathsAreNotTold(c);
         delaysOfPaths(c);
         delaysAtVoltages(c);
@@ -258,6 +260,38 @@ public final class PathsEdgesTest {
         for (int what : new int[] {-1, 5, Integer.MIN_VALUE, Integer.MAX_VALUE}) {
             c.changesNothing("path(1, " + what + ")", Checks::busy, y -> y.path(1, what), Checks.BAD_VALUE);
         }
+    }
+
+    private static void howOftenAPathWasUsed(Checks c) {
+        c.sentence("Promise 15", "3 for how often it was used so far");
+        ShadowLatches x = Checks.with(8, "07");
+        c.due("never", x.path(7, 3), 0);
+        x.run(2000);
+        c.due("the first in each cycle", x.path(0, 3), 2000);
+        c.due("the last in each cycle", x.path(7, 3), 2000);
+        c.due("another one never", x.path(6, 3), 0);
+        x.undo();
+        c.due("behind undo()", x.path(7, 3), 0);
+        ShadowLatches y = new ShadowLatches();
+        y.addPath(100);
+        Checks.take(y, "1");
+        y.run(5);
+        y.undo();
+        y.undo();
+        y.undo();
+        y.addPath(100);
+        c.due("a path that was added anew", y.path(1, 3), 0);
+    }
+
+    private static void inHowManySetsAPathIs(Checks c) {
+        c.sentence("Promise 15", "4 for in how many sets of the workload it is");
+        ShadowLatches x = Checks.with(8, "07,07,07,07,07,07,07,07,07,07,07,07,07,07,07,0");
+        c.due("in all of sixteen", x.path(0, 4), 16);
+        c.due("in all but the last", x.path(7, 4), 15);
+        c.due("in none", x.path(6, 4), 0);
+        Checks.take(x, "7");
+        c.due("in none of one, though in those that were", x.path(0, 4), 0);
+        c.due("in the only one", x.path(7, 4), 1);
     }
 
     private static void unknownPathsAreNotTold(Checks c) {

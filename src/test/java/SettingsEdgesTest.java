@@ -10,6 +10,7 @@ public final class SettingsEdgesTest {
         aStepOfTheVoltage(c);
         theMostStepsUp(c);
         sevenSettings(c);
+        eachInItsOwnRange(c);
         settingTheSame(c);
         settingTheVoltage(c);
         settingTheSameVoltage(c);
@@ -142,6 +143,26 @@ public final class SettingsEdgesTest {
         c.due("set(6, 10)", new ShadowLatches().set(6, 10), 4);
         for (int which : new int[] {-1, 7, 8, 17, Integer.MIN_VALUE, Integer.MAX_VALUE}) {
             c.changesNothing("set(" + which + ", 10)", Checks::busy, x -> x.set(which, 10), Checks.BAD_VALUE);
+        }
+    }
+
+    private static void eachInItsOwnRange(Checks c) {
+        c.sentence("Promise 8", "- `value`: in its range");
+        int[] least = {50, 0, 1, 10, 0, 1, 1};
+        int[] most = {1000, 200, 20, 500, 100, 50, 10};
+        // Each bound of one setting is asked of all others, too.
+        for (int which = 0; which < 7; which++) {
+            for (int other = 0; other < 7; other++) {
+                for (int value : new int[] {least[other], least[other] - 1, most[other], most[other] + 1}) {
+                    ShadowLatches x = new ShadowLatches();
+                    int before = x.count(17 + which);
+                    boolean taken = value >= least[which] && value <= most[which];
+                    int due = !taken ? Checks.BAD_VALUE : value == before ? Checks.NONE : before;
+                    c.due("set(" + which + ", " + value + ")", x.set(which, value), due);
+                    c.due("the setting then", x.count(17 + which), taken ? value : before);
+                    c.due("the states then", x.count(24), due < 0 ? 0 : 1);
+                }
+            }
         }
     }
 

@@ -20,6 +20,7 @@ public final class TextsEdgesTest {
         theEmptyTextDoes(c);
         pathsAreMissedBehindFaults(c);
         theTextStays(c);
+        nothingOfTheTextBeforeStays(c);
         itBeginsWithItsFirstSet(c);
         howManySets(c);
         faultsAreErrors(c);
@@ -187,9 +188,23 @@ public final class TextsEdgesTest {
         x.layWorkload(1, 0);
         c.due("it can be taken again", x.takeWorkload(), 3);
         c.due("its second set", x.workload(1), 2);
+        c.due("its third set", x.workload(2), 0);
         c.due("type behind it", x.type('x'), 6);
         c.due("a fault", x.takeWorkload(), -105);
         c.due("the text with the fault stays, too", x.count(25), 6);
+    }
+
+    private static void nothingOfTheTextBeforeStays(Checks c) {
+        c.sentence("Promise 4", "Takes the workload of the text");
+        ShadowLatches x = Checks.with(8, "01,23,45,67");
+        c.due("takeWorkload() of another text", Checks.take(x, "-,7,-"), 3);
+        c.due("workload(0)", x.workload(0), 0);
+        c.due("workload(1)", x.workload(1), 128);
+        c.due("workload(2)", x.workload(2), 0);
+        c.due("workload(3)", x.workload(3), Checks.NONE);
+        c.due("takeWorkload() of a text with a fault", Checks.take(x, "6,6,66"), -105);
+        c.due("takeWorkload() of a text behind it", Checks.take(x, "0,-,0"), 3);
+        c.due("workload(1) of it", x.workload(1), 0);
     }
 
     private static void itBeginsWithItsFirstSet(Checks c) {
